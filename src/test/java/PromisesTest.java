@@ -1,14 +1,15 @@
 /** For each promise of the document: ordinary inputs, the edges that it names, and wrong inputs. */
-public final class PromisesTest {
-    private static final int NONE = TwoBanks.NONE;
+public final class PromisesTest extends Sentences {
     private static final int[] WRONG_FIELDS = {-1, 9, 10, 36, 64, -64, Integer.MIN_VALUE, Integer.MAX_VALUE};
     private static final int[] WRONG_SIDES = {0, 7, -1, 8, 64, Integer.MIN_VALUE, Integer.MAX_VALUE};
     private static final int[] WRONG_COLOURS = {0, 3, -1, 4, Integer.MIN_VALUE, Integer.MAX_VALUE};
     private static final int[] WRONG_PLACES = {-1, -2, 36, 64, Integer.MIN_VALUE, Integer.MAX_VALUE};
 
-    private final Check check = new Check("PromisesTest");
-    private String promise;
     private TwoBanks x;
+
+    private PromisesTest() {
+        super("PromisesTest");
+    }
 
     public static void main(String[] args) {
         PromisesTest test = new PromisesTest();
@@ -41,51 +42,24 @@ public final class PromisesTest {
         test.count();
         test.askedInTurn();
         test.likeStonesOnOtherBoards();
-        test.check.end();
+        test.end();
     }
 
-    private void begin(String name) {
-        promise = name;
+    private void begin(String promise) {
+        sentence("Promise " + promise + ":");
         x = new TwoBanks();
     }
 
-    private void due(String what, long want, long got) {
-        check.due(promise + ": " + what, want, got);
-    }
-
-    private void yes(String what, boolean got) {
-        check.due(promise + ": " + what, true, got);
-    }
-
-    private void no(String what, boolean got) {
-        check.due(promise + ": " + what, false, got);
-    }
-
-    /** Tells a board row by row: '.' empty, 'N', 'W'; who is to lay. */
     private void tell(int who, String... rows) {
-        yes("board", x.board(rows.length, rows[0].length()));
-        yes("set", x.set(0, 0, who));
-        for (int f = 0; f < rows.length * rows[0].length(); f++) {
-            int colour = ".NW".indexOf(rows[f / rows[0].length()].charAt(f % rows[0].length()));
-            if (colour > 0) {
-                yes("set " + f, x.set(f, colour, who));
-            }
-        }
+        tell(x, who, rows);
     }
 
     private void shows(String what, String... rows) {
-        due(what + " rows", rows.length, x.count(0));
-        due(what + " columns", rows[0].length(), x.count(1));
-        for (int f = 0; f < rows.length * rows[0].length(); f++) {
-            int colour = ".NW".indexOf(rows[f / rows[0].length()].charAt(f % rows[0].length()));
-            due(what + " at " + f, colour, x.at(f));
-        }
+        shows(x, what, rows);
     }
 
     private void done(String what, int done, int undone, int toLay) {
-        due(what + " done", done, x.count(4));
-        due(what + " undone", undone, x.count(5));
-        due(what + " to lay", toLay, x.count(3));
+        stands(x, what, done, undone, toLay);
     }
 
     private void wayIs(int... fields) {
